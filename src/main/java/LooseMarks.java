@@ -400,30 +400,17 @@ public final class LooseMarks {
 
     private int makeTurn(int stage, int task) {
         turns++;
-        return stage == 0 ? readTurn(task) : laterTurn(stage, task);
-    }
-
-    private int readTurn(int task) {
-        int row = input.firstUnread(task, widthOf(0));
-        if (row == NONE || !canGoOn(0, row)) {
-            return NOTHING;
-        }
-        input.read(row);
-        passRow(0, row);
-        return TOOK_ROW;
-    }
-
-    private int laterTurn(int stage, int task) {
         Task taker = taskAt(stage, task);
         if (taker == null) {
             return NOTHING;
         }
-        for (int from = 0; from < widthOf(stage - 1); from++) {
-            Channel channel = channelAt(stage - 1, from, task);
-            if (channel != null && channel.barrier == 0) {
-                takeBarrier(channel, stage, task);
-                return TOOK_BARRIER;
-            }
+        if (stage == 0) {
+            return readTurn(task);
+        }
+        Channel barred = channelWithBarrier(stage, task);
+        if (barred != null) {
+            takeBarrier(barred, stage, task);
+            return TOOK_BARRIER;
         }
         if (taker.isWaiting() && bound != NONE && turns - taker.firstCame >= bound) {
             takePart(stage, task, true);
@@ -439,6 +426,27 @@ public final class LooseMarks {
         keepTaken(channel, taker, row);
         passRow(stage, row);
         return TOOK_ROW;
+    }
+
+    private int readTurn(int task) {
+        int row = input.firstUnread(task, widthOf(0));
+        if (row == NONE || !canGoOn(0, row)) {
+            return NOTHING;
+        }
+        input.read(row);
+        passRow(0, row);
+        return TOOK_ROW;
+    }
+
+    /** The first channel that leads to the task with the BARRIER at its front, or null. */
+    private Channel channelWithBarrier(int stage, int task) {
+        for (int from = 0; from < widthOf(stage - 1); from++) {
+            Channel channel = channelAt(stage - 1, from, task);
+            if (channel != null && channel.barrier == 0) {
+                return channel;
+            }
+        }
+        return null;
     }
 
     /** The task from which the channel leads whose row comes next; NONE when none can be taken. */

@@ -55,7 +55,7 @@ public final class RandomRunsTest {
     }
 
     private void oneBound() {
-        int[] some = {-1, 0, 1, 3, 8, 20, 60, 1000, 1001, -2};
+        int[] some = {-1, 0, 0, 1, 1, 2, 3, 4, 6, 8, 20, 60, 1000, 1001, -2};
         int turns = some[random.nextInt(some.length)];
         call = "bound(" + turns + ")";
         same(call, x.bound(turns), m.bound(turns));
