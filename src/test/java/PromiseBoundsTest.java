@@ -536,6 +536,17 @@ public final class PromiseBoundsTest extends Sentences {
         due(x.turn(1, 0), 2);
         due(x.channel(0, 0, 0, 1), NONE);
         due(x.channel(0, 0, 0, 0), 1);
+        // Rows that go from a channel without one leave it so, with a mark under way and without.
+        due(x.about(5), 0);
+        due(x.turn(1, 0), 1);
+        due(x.channel(0, 0, 0, 1), NONE);
+        x.giveUp();
+        feed(x, 0, 0);
+        turns(x, 0, 0, 2);
+        for (int i = 0; i < 2; i++) {
+            due(x.turn(1, 0), 1);
+            due(x.channel(0, 0, 0, 1), NONE);
+        }
     }
 
     private static void channelWithoutAMark() {

@@ -336,7 +336,7 @@ public final class PromisesTest {
         y.mark();
         turns(y, 0, 0, 1);
         due(y.turn(1, 0), 2);
-        turns(y, 0, 0, 1100);
+        turns(y, 0, 0, 400);
         due(y.turn(1, 0), 1);
         due(y.task(1, 0, 1), 1);
     }
@@ -1044,7 +1044,7 @@ public final class PromisesTest {
         due(x.keptKey(0, 0, 0, 0, 0), 2);
         begin(24);
         due(x.keptValue(0, 0, 0, 0, 0), 8);
-        // Rows taken before the barrier came stand before those that it overtook.
+        // Rows that a task takes once it took part by BOUND are kept in the order of its taking.
         LooseMarks y = job(2, 2, 1);
         y.bound(3);
         feedKeys(y, 1, 3, 5, 7);
